@@ -1,5 +1,3 @@
-import java.util.Arrays;
-
 public final class ReachFlows {
     public static final int NONE = -1, UNKNOWN = -1000000001, OUTSIDE = -1000000002, NOT = -1000000003, FULL = -1000000004;
     public static final long PLUS = 4000000000000000000L;
@@ -447,10 +445,6 @@ public final class ReachFlows {
             }
         }
 
-        void clear() {
-            Arrays.fill(values, 0);
-        }
-
         void copyFrom(Cells from) {
             int length = Math.min(values.length, from.values.length);
             System.arraycopy(from.values, 0, values, 0, length);
@@ -470,10 +464,8 @@ public final class ReachFlows {
         River() {
         }
 
+        /** As at first; a REACH finds its rows cleared when it comes. */
         void clear() {
-            features.clear();
-            sides.clear();
-            seens.clear();
             timeCount = TIMES_FIRST;
             timeStep = STEP_FIRST;
             reachCount = 0;
@@ -908,7 +900,6 @@ public final class ReachFlows {
         private int faultPlace = NONE;
         private boolean timesTold = false;
         private boolean stepTold = false;
-        private boolean othersTold = false;
 
         Text() {
         }
@@ -943,7 +934,6 @@ public final class ReachFlows {
             faultPlace = NONE;
             timesTold = false;
             stepTold = false;
-            othersTold = false;
             river.clear();
             for (int i = 0; i <= LETTERS_MOST && isSound(); i++) {
                 skipBlanks();
@@ -976,7 +966,7 @@ public final class ReachFlows {
         }
 
         private void readTimes(River river) {
-            if (timesTold || othersTold) {
+            if (timesTold || hasOthers(river)) {
                 fail(TOO_LATE, place);
                 return;
             }
@@ -990,7 +980,7 @@ public final class ReachFlows {
         }
 
         private void readStep(River river) {
-            if (stepTold || othersTold) {
+            if (stepTold || hasOthers(river)) {
                 fail(TOO_LATE, place);
                 return;
             }
@@ -1003,12 +993,16 @@ public final class ReachFlows {
             }
         }
 
+        /** An 's' without an 'r' ahead of it has a FAULT of its own, so that REACHES tell of both. */
+        private static boolean hasOthers(River river) {
+            return river.reachCount() > 0;
+        }
+
         private void readReach(River river) {
             if (!river.hasRoomForReach()) {
                 fail(TOO_MANY, place);
                 return;
             }
-            othersTold = true;
             place++;
             int below = readBelow(river);
             int k = readNumber(0, K_MOST);
@@ -1040,7 +1034,6 @@ public final class ReachFlows {
         }
 
         private void readSides(River river) {
-            othersTold = true;
             place++;
             int r = readNumber(0, river.reachCount() - 1);
             for (int t = 0; t <= TIMES_MOST && isSound(); t++) {
