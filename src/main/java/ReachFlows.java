@@ -554,7 +554,7 @@ public final class ReachFlows {
         int partsOfAll() {
             int parts = 0;
             for (int r = 0; r < reachCount; r++) {
-                parts += featureOf(r, PARTS);
+                parts += (int) features.at(r, PARTS);
             }
             return parts;
         }
@@ -623,7 +623,7 @@ public final class ReachFlows {
         }
     }
 
-    /** What comes in, goes out and is stored, as the River says that it ran through it last. */
+    /** What comes in, goes out and is stored, in the River that it ran through last. */
     private static final class Routing {
         private final Cells ins = new Cells(REACHES_MOST, TIMES_MOST);
         private final Cells outs = new Cells(REACHES_MOST, TIMES_MOST);
