@@ -6,6 +6,7 @@ public final class DeedsTest {
 
     public static void main(String[] args) {
         promise11Times();
+        promise11Shorter();
         promise12Step();
         promise13Reach();
         promise14Change();
@@ -42,6 +43,40 @@ public final class DeedsTest {
         Checks.due("times(1)", flows.times(1), OUTSIDE);
         Checks.due("times(25)", flows.times(25), OUTSIDE);
         Checks.due("T", flows.told(0), 24);
+    }
+
+    /** What is beyond T counts for nothing, even if it was asked for ahead of that. */
+    private static void promise11Shorter() {
+        for (int beyond : new int[] {0, 9999}) {
+            ReachFlows flows = Checks.told("r-20 10 2;r0 20 10 1;s0 50 60 70;s1 50 60 70;");
+            ReachFlows bare = Checks.told("t3;r-20 10 2;r0 20 10 1;s0 50 60 70;s1 50 60 70;");
+            for (int t = 0; t < 3; t++) {
+                flows.seen(0, t, 40 + t);
+                bare.seen(0, t, 40 + t);
+            }
+            flows.side(0, 3, beyond);
+            flows.side(1, 3, 9999 - beyond);
+            flows.seen(0, 3, beyond);
+            askAll(flows);
+            flows.times(3);
+            Checks.dueRow("all that is asked, less beyond T", askAll(flows), askAll(bare));
+            flows.show(0);
+            flows.times(4);
+            Checks.due("show leaves what is beyond T", flows.flow(0, 3, 1), beyond);
+        }
+    }
+
+    private static long[] askAll(ReachFlows flows) {
+        long[] answers = new long[40];
+        for (int r = 0; r < 2; r++) {
+            for (int what = 0; what < 12; what++) {
+                answers[20 * r + what] = flows.reachAt(r, what);
+            }
+            for (int what = 0; what < 8; what++) {
+                answers[20 * r + 12 + what] = flows.sum(r, what);
+            }
+        }
+        return answers;
     }
 
     private static void promise12Step() {
