@@ -28,6 +28,10 @@ final class Checks {
         due(what, so ? 1 : 0, 1);
     }
 
+    static int answers() {
+        return right + wrong;
+    }
+
     static boolean anyWrong() {
         return wrong > 0;
     }
@@ -51,6 +55,36 @@ final class Checks {
         ReachFlows flows = new ReachFlows();
         holds("'" + text + "' has no fault", tell(flows, text) >= 0);
         return flows;
+    }
+
+    /** The text is no river: the number of its first FAULT, and where it is. */
+    static void faulty(String text, int number, int place) {
+        ReachFlows flows = new ReachFlows();
+        due("river() of '" + text + "'", tell(flows, text), -10 - number);
+        due("fault() of '" + text + "'", flows.fault(), place);
+        due("deeds behind '" + text + "'", flows.told(8), 0);
+    }
+
+    /** The text is a river of so many REACHES. */
+    static ReachFlows sound(String text, int reaches) {
+        ReachFlows flows = new ReachFlows();
+        due("river() of '" + text + "'", tell(flows, text), reaches);
+        due("fault() of '" + text + "'", flows.fault(), ReachFlows.NONE);
+        return flows;
+    }
+
+    /** All of section 1 that can be asked for; it costs five calls for each REACH and TIME. */
+    static String picture(ReachFlows flows) {
+        StringBuilder all = new StringBuilder();
+        for (int what = 0; what < 5; what++) {
+            all.append(flows.told(what)).append(' ');
+        }
+        for (int r = 0; r < flows.told(2); r++) {
+            for (int what = 0; what < 5; what++) {
+                all.append(java.util.Arrays.toString(row(flows, r, what))).append(flows.reachAt(r, what));
+            }
+        }
+        return all.toString();
     }
 
     /** IN (2), OUT (3) or STORED (4) at all TIMES without PLUS; SIDE (0) or SEEN (1) as they are. */
