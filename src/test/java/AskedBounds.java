@@ -253,6 +253,11 @@ final class AskedBounds {
         Checks.due("DIFFERENCE of OUT below 0", seenBy("t4;r-20 10 1;s0 0 1;", 0, 9999, 0, 0).sum(0, 6), 10000);
         // Its PARTS count: OUT of four is 27, 26, 25, 21.
         Checks.due("DIFFERENCE of four PARTS", seenBy("t4;r-1 0 4;s0 27;").sum(0, 6), 27 + 26 + 25 + 21);
+        // SEEN at a TIME that there is no more does not count.
+        ReachFlows flows = seenBy("t3;r-0 0 1;s0 1 2 3;", 1, 2, 9);
+        Checks.due("DIFFERENCE at the last TIME", flows.sum(0, 6), 6);
+        flows.times(2);
+        Checks.due("DIFFERENCE, if the last is no more", flows.sum(0, 6), 0);
     }
 
     private static void best() {
@@ -361,6 +366,8 @@ final class AskedBounds {
         flows.seed(7);
         Checks.due("drift(1) without REACHES", flows.drift(1), 7);
         Checks.due("drift(20) without REACHES", flows.drift(20), 7);
+        Checks.due("drift(0) without REACHES", flows.drift(0), OUTSIDE);
+        Checks.due("drift(21) without REACHES", flows.drift(21), OUTSIDE);
         Checks.due("THE SEED", flows.told(9), 7);
         Checks.due("deeds", flows.told(8), 0);
         flows.reach(NONE, 0, 0, 1);

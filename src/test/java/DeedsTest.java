@@ -23,7 +23,6 @@ public final class DeedsTest {
         promise23Seed();
         promise24Keep();
         promise25GoBack();
-        refusedChangesNothing();
         Checks.end();
     }
 
@@ -40,8 +39,6 @@ public final class DeedsTest {
         Checks.due("SEEN is there again", flows.flow(0, 11, 1), 6);
         Checks.due("the last TIME", flows.flow(0, 23, 0), 0);
         Checks.due("times(24) again", flows.times(24), 24);
-        Checks.due("times(1)", flows.times(1), OUTSIDE);
-        Checks.due("times(25)", flows.times(25), OUTSIDE);
         Checks.due("T", flows.told(0), 24);
     }
 
@@ -85,15 +82,11 @@ public final class DeedsTest {
         // A, B are 20, C is 0, M is 40.
         Checks.due("OUT by D 2", flows.flow(0, 1, 3), PLUS + 15);
         Checks.due("step(9)", flows.step(9), 2);
-        Checks.due("step(0)", flows.step(0), OUTSIDE);
-        Checks.due("step(10)", flows.step(10), OUTSIDE);
         Checks.due("D", flows.told(1), 9);
     }
 
     private static void promise13Reach() {
         ReachFlows flows = new ReachFlows();
-        Checks.due("reach(0, ..) of none", flows.reach(0, 1, 1, 1), UNKNOWN);
-        Checks.due("reach(-2, ..)", flows.reach(-2, 1, 1, 1), UNKNOWN);
         Checks.due("UNKNOWN ahead of OUTSIDE", flows.reach(0, 21, 1, 1), UNKNOWN);
         int[][] outside = {{-1, -1, 0, 1}, {-1, 21, 0, 1}, {-1, 0, -1, 1}, {-1, 0, 11, 1}, {-1, 0, 0, 0}, {-1, 0, 0, 5}};
         for (int[] o : outside) {
@@ -133,13 +126,6 @@ public final class DeedsTest {
         Checks.due("change to unlawful ones", flows.change(0, 20, 1), 0);
         Checks.due("change to the least", flows.change(0, 0, 0), 0);
         Checks.due("change to the greatest", flows.change(0, 20, 10), 0);
-        Checks.due("change(1, 21, 0)", flows.change(1, 21, 0), UNKNOWN);
-        Checks.due("change(-1, 0, 0)", flows.change(-1, 0, 0), UNKNOWN);
-        Checks.due("change(0, -1, 0)", flows.change(0, -1, 0), OUTSIDE);
-        Checks.due("change(0, 21, 0)", flows.change(0, 21, 0), OUTSIDE);
-        Checks.due("change(0, 0, -1)", flows.change(0, 0, -1), OUTSIDE);
-        Checks.due("change(0, 0, 11)", flows.change(0, 0, 11), OUTSIDE);
-        Checks.due("K as it was", flows.reachAt(0, 1), 20);
     }
 
     private static void promise15Side() {
@@ -150,12 +136,6 @@ public final class DeedsTest {
         Checks.due("SIDE of 1", flows.flow(1, 3, 0), 7);
         Checks.due("SIDE of 0", flows.flow(0, 3, 0), 0);
         Checks.due("IN of 0", flows.flow(0, 3, 2), PLUS + 7);
-        Checks.due("side(2, 0, -1)", flows.side(2, 0, -1), UNKNOWN);
-        Checks.due("side(-1, 0, 0)", flows.side(-1, 0, 0), UNKNOWN);
-        Checks.due("side(0, 12, -1)", flows.side(0, 12, -1), UNKNOWN);
-        Checks.due("side(0, -1, 0)", flows.side(0, -1, 0), UNKNOWN);
-        Checks.due("side(0, 0, -1)", flows.side(0, 0, -1), OUTSIDE);
-        Checks.due("side(0, 0, 10000)", flows.side(0, 0, 10000), OUTSIDE);
     }
 
     private static void promise16Seen() {
@@ -166,12 +146,6 @@ public final class DeedsTest {
         Checks.due("SEEN of 0", flows.flow(0, 11, 1), 0);
         Checks.due("seen(1, 10, 0)", flows.seen(1, 10, 0), 0);
         Checks.due("OUT is as it was", flows.flow(1, 11, 3), PLUS);
-        Checks.due("seen(2, 0, -1)", flows.seen(2, 0, -1), UNKNOWN);
-        Checks.due("seen(-1, 0, 0)", flows.seen(-1, 0, 0), UNKNOWN);
-        Checks.due("seen(0, 12, -1)", flows.seen(0, 12, -1), UNKNOWN);
-        Checks.due("seen(0, -1, 0)", flows.seen(0, -1, 0), UNKNOWN);
-        Checks.due("seen(0, 0, -1)", flows.seen(0, 0, -1), OUTSIDE);
-        Checks.due("seen(0, 0, 10000)", flows.seen(0, 0, 10000), OUTSIDE);
     }
 
     private static void promise17Show() {
@@ -185,8 +159,6 @@ public final class DeedsTest {
         flows = Checks.told("t3;r-0 0 1;r0 0 0 1;s0 1 9998 9999;s1 1 1 1;");
         Checks.due("show of what is above 9999", flows.show(0), 1);
         Checks.dueRow("SEEN of what is above 9999", Checks.row(flows, 0, 1), 2, 9999, 9999);
-        Checks.due("show(2)", flows.show(2), UNKNOWN);
-        Checks.due("show(-1)", flows.show(-1), UNKNOWN);
     }
 
     private static void promise18Take() {
@@ -204,8 +176,6 @@ public final class DeedsTest {
         ReachFlows flows = new ReachFlows();
         Checks.due("drift without REACHES", flows.drift(5), 0);
         Checks.due("it is no deed", flows.told(8), 0);
-        Checks.due("drift(0)", flows.drift(0), OUTSIDE);
-        Checks.due("drift(21)", flows.drift(21), OUTSIDE);
         flows.reach(NONE, 0, 0, 1);
         flows.reach(NONE, 0, 0, 1);
         flows.reach(NONE, 0, 0, 1);
@@ -228,8 +198,6 @@ public final class DeedsTest {
             flows.step(i % 9 + 1);
         }
         Checks.due("can be undone", flows.told(8), 16);
-        Checks.due("undo(0)", flows.undo(0), OUTSIDE);
-        Checks.due("undo(17)", flows.undo(17), OUTSIDE);
         Checks.due("undo(1)", flows.undo(1), 0);
         Checks.due("D of the 19th", flows.told(1), 1);
         Checks.due("undo(16) of 15", flows.undo(16), NOT);
@@ -248,65 +216,41 @@ public final class DeedsTest {
         Checks.due("THE TEXT stays", flows.told(5), 1);
     }
 
+    private interface Deed {
+        void on(ReachFlows flows);
+    }
+
     private static void promise20EachDeed() {
+        undone("river()", flows -> flows.river());
+        undone("times(5), that changes nothing", flows -> flows.times(5));
+        undone("times(9)", flows -> flows.times(9));
+        undone("step(2), that changes nothing", flows -> flows.step(2));
+        undone("step(9)", flows -> flows.step(9));
+        undone("reach(1, 1, 1, 1)", flows -> flows.reach(1, 1, 1, 1));
+        undone("change(0, 20, 10)", flows -> flows.change(0, 20, 10));
+        undone("side(0, 0, 1), that changes nothing", flows -> flows.side(0, 0, 1));
+        undone("side(0, 0, 99)", flows -> flows.side(0, 0, 99));
+        undone("seen(1, 2, 99)", flows -> flows.seen(1, 2, 99));
+        undone("show(1)", flows -> flows.show(1));
+        undone("take()", flows -> flows.take());
+        undone("drift(1)", flows -> flows.drift(1));
+    }
+
+    /** Each on an object of its own: two pictures are some 160 of the 512 calls that one is good for. */
+    private static void undone(String name, Deed deed) {
         ReachFlows flows = Checks.told("t5;d2;r-1 2 1;r0 3 4 2;s0 1 2 3 4 5;s1 6;");
         flows.seen(1, 2, 8);
         flows.keep(0);
-        String before = picture(flows);
-        int at = 0;
-        flows.river();
-        undone(flows, ++at, before);
-        flows.times(5);
-        undone(flows, ++at, before);
-        flows.times(9);
-        undone(flows, ++at, before);
-        flows.step(2);
-        undone(flows, ++at, before);
-        flows.reach(1, 1, 1, 1);
-        undone(flows, ++at, before);
-        flows.change(0, 20, 10);
-        undone(flows, ++at, before);
-        flows.side(0, 0, 1);
-        undone(flows, ++at, before);
-        flows.side(0, 0, 99);
-        undone(flows, ++at, before);
-        flows.seen(1, 2, 99);
-        undone(flows, ++at, before);
-        flows.show(1);
-        undone(flows, ++at, before);
-        flows.take();
-        undone(flows, ++at, before);
-        flows.drift(1);
-        undone(flows, ++at, before);
-    }
-
-    private static void undone(ReachFlows flows, int at, String before) {
-        Checks.due("deed " + at + " can be undone", flows.told(8), 1);
-        Checks.due("deed " + at + ", REACHES", flows.undo(1), 2);
-        Checks.holds("deed " + at + ": all is as it was", picture(flows).equals(before));
-        Checks.due("deed " + at + " is undone", flows.told(8), 0);
-    }
-
-    /** All of section 1 that can be asked for. */
-    private static String picture(ReachFlows flows) {
-        StringBuilder all = new StringBuilder();
-        for (int what = 0; what < 5; what++) {
-            all.append(flows.told(what)).append(' ');
-        }
-        for (int r = 0; r < flows.told(2); r++) {
-            for (int what = 0; what < 5; what++) {
-                all.append(java.util.Arrays.toString(Checks.row(flows, r, what))).append(flows.reachAt(r, what));
-            }
-        }
-        return all.toString();
+        String before = Checks.picture(flows);
+        deed.on(flows);
+        Checks.due(name + " can be undone", flows.told(8), 1);
+        Checks.due(name + ", REACHES undone", flows.undo(1), 2);
+        Checks.holds(name + ": all is as it was", Checks.picture(flows).equals(before));
+        Checks.due(name + " is undone", flows.told(8), 0);
     }
 
     private static void promise21Write() {
         ReachFlows flows = Checks.told("t2;r-0 0 1;");
-        Checks.due("write(1, 0, 0)", flows.write(1, 0, 0), UNKNOWN);
-        Checks.due("write(-1, 0, 0)", flows.write(-1, 0, 0), UNKNOWN);
-        Checks.due("write(0, 2, 0)", flows.write(0, 2, 0), UNKNOWN);
-        Checks.due("write(0, -1, 0)", flows.write(0, -1, 0), UNKNOWN);
         for (int i = 1; i <= 20; i++) {
             Checks.due("write, the " + i + "th", flows.write(0, 0, 0), i);
         }
@@ -353,8 +297,6 @@ public final class DeedsTest {
     private static void promise23Seed() {
         ReachFlows flows = new ReachFlows();
         Checks.due("seed(2147483647)", flows.seed(2147483647), 0);
-        Checks.due("seed(-1)", flows.seed(-1), OUTSIDE);
-        Checks.due("seed(MIN)", flows.seed(Integer.MIN_VALUE), OUTSIDE);
         Checks.due("THE SEED", flows.told(9), 2147483647);
         Checks.due("seed(0)", flows.seed(0), 2147483647);
         Checks.due("it is no deed", flows.told(8), 0);
@@ -362,9 +304,6 @@ public final class DeedsTest {
 
     private static void promise24Keep() {
         ReachFlows flows = Checks.told("t5;d2;r-1 2 1;s0 4;");
-        Checks.due("keep(2)", flows.keep(2), UNKNOWN);
-        Checks.due("keep(-1)", flows.keep(-1), UNKNOWN);
-        Checks.due("deeds behind a refused keep", flows.told(8), 1);
         Checks.due("keep(1)", flows.keep(1), 1);
         Checks.due("nothing can be undone", flows.told(8), 0);
         Checks.due("undo(1)", flows.undo(1), NOT);
@@ -384,7 +323,7 @@ public final class DeedsTest {
         flows.seen(1, 22, 7);
         flows.times(5);
         flows.seed(77);
-        String before = picture(flows);
+        String before = Checks.picture(flows);
         Checks.due("goBack of none", flows.goBack(0), NOT);
         Checks.due("deeds behind a refused goBack", flows.told(8), 4);
         flows.keep(0);
@@ -397,10 +336,8 @@ public final class DeedsTest {
         flows.write(0, 0, 0);
         flows.reach(NONE, 1, 1, 1);
         flows.write(0, 0, 5);
-        Checks.due("goBack(2)", flows.goBack(2), UNKNOWN);
-        Checks.due("goBack(-1)", flows.goBack(-1), UNKNOWN);
         Checks.due("goBack(0)", flows.goBack(0), 1);
-        Checks.holds("all is as it was", picture(flows).equals(before));
+        Checks.holds("all is as it was", Checks.picture(flows).equals(before));
         Checks.due("THE SEED is as it was", flows.told(9), 77);
         Checks.due("THE TEXT stays", flows.told(5), 1);
         Checks.due("THE BOOK stays", flows.told(6), 1);
@@ -411,32 +348,6 @@ public final class DeedsTest {
         Checks.due("goBack(1)", flows.goBack(1), 1);
         Checks.due("REACHES of IMAGE 1", flows.told(2), 1);
         Checks.due("goBack(0) again", flows.goBack(0), 1);
-        Checks.holds("all is as it was again", picture(flows).equals(before));
-    }
-
-    private static void refusedChangesNothing() {
-        ReachFlows flows = Checks.told("t5;d2;r-1 2 4;r0 3 4 4;s0 4;");
-        flows.keep(0);
-        String before = picture(flows);
-        flows.times(1);
-        flows.step(0);
-        flows.reach(5, 0, 0, 1);
-        flows.reach(0, 0, 0, 9);
-        flows.reach(0, 0, 0, 1);
-        flows.change(0, 21, 0);
-        flows.side(0, 0, 10000);
-        flows.side(0, 5, 1);
-        flows.seen(0, 0, -1);
-        flows.show(2);
-        flows.drift(0);
-        flows.undo(1);
-        flows.write(0, 5, 0);
-        flows.seed(-1);
-        flows.goBack(1);
-        Checks.tell(flows, "r");
-        Checks.holds("refused: all is as it was", picture(flows).equals(before));
-        Checks.due("refused: no deed", flows.told(8), 0);
-        Checks.due("refused: no entry", flows.told(6), 0);
-        Checks.due("refused: THE SEED", flows.told(9), 0);
+        Checks.holds("all is as it was again", Checks.picture(flows).equals(before));
     }
 }

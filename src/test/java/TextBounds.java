@@ -82,6 +82,7 @@ final class TextBounds {
         Checks.faulty("r-1 1 1 1;", 1, 8);
         Checks.faulty("r--1 1 1;", 1, 2);
         Checks.faulty("r-1 -1 1;", 1, 4);
+        Checks.faulty("r-1-1 1;", 1, 3);
         Checks.faulty("r-1 1 -1;", 1, 6);
         Checks.faulty("r-1 1 1-;", 1, 7);
         Checks.faulty("r-1 1 1;r-0 1 1;r0- 1 1 1;", 1, 18);
@@ -232,6 +233,10 @@ final class TextBounds {
         Checks.faulty("t5d5;", 1, 2);
         Checks.faulty("r-1 1 1s0 1;", 1, 7);
         Checks.faulty("r-1 1 1;s0 1 s0 1;", 1, 13);
+        Checks.faulty("t5;\t", 1, 3);
+        Checks.faulty("t5 12345;", 1, 3);
+        Checks.faulty("rt", 1, 1);
+        Checks.faulty("r-1 1 1t", 1, 7);
     }
 
     private static void firstLetter(int letter) {
@@ -264,6 +269,7 @@ final class TextBounds {
         Checks.faulty("d00001;", 2, 5);
         Checks.faulty("d 00001;", 2, 6);
         Checks.faulty("r-1 1 1;r00000 1 1 1;", 2, 13);
+        Checks.faulty("r-1 1 1;r0000 1 1 1;r00000 1 1 1;", 2, 25);
         Checks.faulty("r-00001 1 1;", 2, 6);
         Checks.faulty("r-1 00001 1;", 2, 8);
         Checks.faulty("r-1 1 00001;", 2, 10);
@@ -302,6 +308,7 @@ final class TextBounds {
     private static void noSuchReach() {
         says("that of a REACH that there is not (BELOW is to be told ahead) (at its first figure).");
         Checks.faulty("r0 1 1 1;", 2, 1);
+        Checks.faulty("r1", 2, 1);
         Checks.faulty("r-1 1 1;r1 1 1 1;", 2, 9);
         Checks.sound("r-1 1 1;r0 1 1 1;", 2);
         Checks.faulty("r-1 1 1;r 0002 1 1 1;r-1 1 1;", 2, 10);
@@ -333,6 +340,7 @@ final class TextBounds {
         Checks.faulty("d5;r-1 1 1;t5;", 3, 11);
         // It is at the letter, whatever follows.
         Checks.faulty("t5;t", 3, 3);
+        Checks.faulty("t5;t5t", 3, 3);
         Checks.faulty("d5;d0", 3, 3);
         // In the next text it is the first time again, behind a FAULT, too.
         ReachFlows flows = Checks.told("t5;d5;r-1 1 1;");
@@ -378,6 +386,7 @@ final class TextBounds {
         Checks.faulty("t2;r-1 1 1;s0 1 2 ", 1, 18);
         Checks.sound("r-1 1 1;s0" + " 7".repeat(12) + ";", 1);
         Checks.faulty("r-1 1 1;s0" + " 7".repeat(13) + ";", 4, 35);
+        Checks.faulty("r-1 1 1;s0 1 2 3 4 5 6 7 8 9 10 11 12 13;", 4, 38);
         ReachFlows most = Checks.sound("t24;r-1 1 1;s0" + " 7".repeat(24) + ";", 1);
         Checks.due("SIDE at the last TIME", most.flow(0, 23, 0), 7);
         Checks.faulty("t24;r-1 1 1;s0" + " 7".repeat(25) + ";", 4, 63);
